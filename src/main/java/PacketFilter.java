@@ -719,29 +719,32 @@ public final class PacketFilter {
     }
 
     private int execute(int i, int done) {
+        int op = opOf[i];
         int d = dOf[i];
         int s = sOf[i];
         int n = nOf[i];
-        switch (opOf[i]) {
+        if (takesX(op)) return executeWithX(i, s < 0 ? n : value[s]);
+        switch (op) {
             case SET: giveNumber(d, n); break;
             case MOVE: copyValue(s, d); break;
             case LOAD: case LOAD2: load(i); break;
-            case STORE: storeByte(area[d], value[d] + n, value[s]); break;
-            case STORE2:
-                storeByte(area[d], value[d] + n, value[s]);
-                storeByte(area[d], value[d] + n + 1, value[s] >> 8);
-                break;
+            case STORE: case STORE2: store(i); break;
             case SAVE: copyValue(d, REGISTERS + n); break;
             case BACK: copyValue(REGISTERS + n, d); break;
             case FIND: find(); break;
             case SIZE: giveNumber(0, size); break;
             case CLOCK: giveNumber(0, done); break;
-            case JUMP: return toOf[i];
-            case ADD: case SUB: case MUL: case DIV: case MOD: case AND: case OR: case XOR: case LEFT: case RIGHT:
-                change(opOf[i], d, s < 0 ? n : value[s]);
-                break;
-            default: return isSoNow(opOf[i], d, s < 0 ? n : value[s]) ? toOf[i] : i + 1;
+            default: break;
         }
+        return op == JUMP ? toOf[i] : i + 1;
+    }
+
+    private int executeWithX(int i, int x) {
+        int op = opOf[i];
+        int d = dOf[i];
+        if (isCondition(op)) return isSoNow(op, d, x) ? toOf[i] : i + 1;
+        if (area[d] == NO_AREA) value[d] = reckon(op, value[d], x);
+        else value[d] += op == ADD ? x : -x;
         return i + 1;
     }
 
@@ -762,22 +765,17 @@ public final class PacketFilter {
         if (e >= 0 && e < ENTRIES && isThere[e]) area[0] = e;
     }
 
-    private void change(int op, int d, int v) {
-        if (area[d] == NO_AREA) value[d] = reckon(op, value[d], v);
-        else value[d] += op == ADD ? v : -v;
-    }
-
-    private boolean isSoNow(int op, int d, int v) {
-        int x = value[d];
+    private boolean isSoNow(int op, int d, int x) {
+        int v = value[d];
         switch (op) {
             // An entry is never NULL, whatever its place.
-            case IF_EQUAL: return area[d] == NO_AREA && x == v;
-            case IF_DIFFERENT: return area[d] != NO_AREA || x != v;
-            case IF_LESS: return x < v;
-            case IF_AT_MOST: return x <= v;
-            case IF_MORE: return x > v;
-            case IF_AT_LEAST: return x >= v;
-            default: return (x & v) != 0;
+            case IF_EQUAL: return area[d] == NO_AREA && v == x;
+            case IF_DIFFERENT: return area[d] != NO_AREA || v != x;
+            case IF_LESS: return v < x;
+            case IF_AT_MOST: return v <= x;
+            case IF_MORE: return v > x;
+            case IF_AT_LEAST: return v >= x;
+            default: return (v & x) != 0;
         }
     }
 
@@ -790,6 +788,14 @@ public final class PacketFilter {
             v += upper << 8;
         }
         giveNumber(dOf[i], v);
+    }
+
+    private void store(int i) {
+        int into = area[dOf[i]];
+        int at = value[dOf[i]] + nOf[i];
+        int v = value[sOf[i]];
+        storeByte(into, at, v);
+        if (opOf[i] == STORE2) storeByte(into, at + 1, v >> 8);
     }
 
     // verify() has seen to it that the byte is there; it is looked at again only so that no call can ever throw.
