@@ -558,7 +558,7 @@ public final class PacketFilter {
         }
     }
 
-    // Every range goes through here, so that it is always trimmed.
+    // Every range that is reckoned goes through here, so that it is always trimmed.
     private void hold(int c, int low, int high, int zeros) {
         int unit = 1 << zeros;
         lo[c] = (low + unit - 1) & -unit;

@@ -7,16 +7,25 @@ public final class ModelTest {
     private static final int[] FOUND = new int[7];
 
     public static void main(String[] args) {
-        for (int seed = 0; seed < 12000; seed++) tryProgram(seed, new Random(seed));
+        Model before = new Model();
+        for (int seed = 0; seed < 12000; seed++) {
+            Random chance = new Random(seed);
+            Model m = new Model();
+            makeProgram(m, chance);
+            m.verify();
+            FOUND[m.wrongs.isEmpty() ? 0 : m.wrongs.firstEntry().getValue()]++;
+            compareWhatIsFound(seed, m, before);
+            PacketFilter x = loaded(m, before);
+            for (int k = 0; k < 4; k++) compareRun(seed, x, m, chance);
+            before = m;
+        }
         // The chance must have made all that is to be compared.
         for (int op = 0; op < 30; op++) checks.due("instruction " + op + " was run", TIMES_RUN[op] > 300, true);
         for (int k = 0; k < 7; k++) checks.due("verify answered " + k, FOUND[k] > 10, true);
         checks.end();
     }
 
-    private static void tryProgram(int seed, Random chance) {
-        PacketFilter x = new PacketFilter();
-        Model m = new Model();
+    private static void makeProgram(Model m, Random chance) {
         int length = 3 + chance.nextInt(30);
         boolean careful = chance.nextInt(10) != 0;
         int idioms = chance.nextInt(7);
@@ -33,12 +42,21 @@ public final class ModelTest {
         // What often is WRONG only by a byte.
         if (chance.nextInt(3) == 0) append(m, touch(chance, m), false);
         if (chance.nextInt(15) != 0) while (m.code(29, 0, 0, 0, 0) >= 0) continue;
-        for (Model.Instruction i : m.program) {
-            String name = seed + " " + i;
-            checks.due(name, x.code(i.op(), i.d(), i.s(), i.n(), i.to()) >= 0, true);
-        }
-        compareVerify(seed, x, m);
-        for (int k = 0; k < 4; k++) compareRun(seed, x, m, chance);
+    }
+
+    /** An object with this program, verified, which another program was in before. */
+    private static PacketFilter loaded(Model m, Model before) {
+        PacketFilter x = new PacketFilter();
+        append(x, before);
+        x.verify();
+        x.wipe();
+        append(x, m);
+        checks.due("verify", x.verify(), m.wrongs.isEmpty() ? 0 : m.wrongs.firstEntry().getValue());
+        return x;
+    }
+
+    private static void append(PacketFilter x, Model m) {
+        for (Model.Instruction i : m.program) checks.due("code", x.code(i.op(), i.d(), i.s(), i.n(), i.to()) >= 0, true);
     }
 
     /** Appends an instruction; where the model takes care, one that is WRONG on some way is left away again. */
@@ -120,13 +138,12 @@ public final class ModelTest {
         return any;
     }
 
-    private static void compareVerify(int seed, PacketFilter x, Model m) {
-        m.verify();
-        int found = m.wrongs.isEmpty() ? 0 : m.wrongs.firstEntry().getValue();
-        FOUND[found]++;
-        checks.due(seed + " verify", x.verify(), found);
-        checks.due(seed + " place", x.place(), m.place());
+    private static void compareWhatIsFound(int seed, Model m, Model before) {
+        PacketFilter x = null;
         for (int i = -1; i <= 32; i++) {
+            // An object is used for 512 calls at most.
+            if ((i + 1) % 5 == 0) x = loaded(m, before);
+            checks.due(seed + " place", x.place(), m.place());
             checks.due(seed + " decided " + i, x.decided(i), m.decided(i));
             for (int r = -1; r <= 10; r++) {
                 for (int what = -1; what <= 4; what++) {
@@ -152,7 +169,7 @@ public final class ModelTest {
         checks.due(seed + " touched what is not there", m.touchedNothing, false);
         for (int k = 0; k < 17; k++) checks.due(seed + " packet " + k, x.packet(k), k < length ? m.packet.get(k) : -1);
         for (int k = 0; k < 64; k++) checks.due(seed + " entry", x.entry(k / 8, k % 8), m.entries[k / 8] == null ? -1 : m.entries[k / 8][k % 8]);
-        if (m.wrongs.isEmpty()) staysWithin(seed, x, m);
+        if (m.wrongs.isEmpty()) staysWithin(seed, m);
     }
 
     private static void changeEntry(PacketFilter x, Model m, Random chance) {
@@ -168,19 +185,19 @@ public final class ModelTest {
     }
 
     /** At each instruction that was run some way comes, and each number is among those that are known to be possible. */
-    private static void staysWithin(int seed, PacketFilter x, Model m) {
+    private static void staysWithin(int seed, Model m) {
         TIMES_RUN[29]++;
         for (int t = 0; t < m.trace.size(); t++) {
             int at = m.traceAt.get(t);
             TIMES_RUN[m.program.get(at).op()]++;
             for (int r = 0; r < 10; r++) {
-                if (x.bound(at, r, 0) != 1) continue;
-                Model.Range range = new Model.Range(x.bound(at, r, 1), x.bound(at, r, 2), x.bound(at, r, 3));
+                if (m.bound(at, r, 0) != 1) continue;
+                Model.Range range = new Model.Range(m.bound(at, r, 1), m.bound(at, r, 2), m.bound(at, r, 3));
                 boolean within = m.trace.get(t)[r] instanceof Integer v && range.has(v);
                 checks.due(seed + " within " + at + " " + r, within, true);
             }
             int next = t + 1 < m.trace.size() ? m.traceAt.get(t + 1) : m.ranLast;
-            if (m.program.get(at).condition() && next != at + 1) checks.due(seed + " jumped", (x.decided(at) & 1) != 0, true);
+            if (m.program.get(at).condition() && next != at + 1) checks.due(seed + " jumped", (m.decided(at) & 1) != 0, true);
         }
     }
 }

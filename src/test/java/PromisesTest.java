@@ -18,6 +18,7 @@ public final class PromisesTest {
         codeBeforeFull();
         codeAndJumps();
         wipe();
+        oneProgramAfterTheOther();
         verifyAndPlace();
         bound();
         boundOfMixedWays();
@@ -134,6 +135,27 @@ public final class PromisesTest {
         due("3 again", x.wipe(), 0);
         due("3 number", x.code(29, 0, 0, 0, 0), 0);
         due("3 verify", x.verify(), 1);
+    }
+
+    /** Nothing of what was found for one program is left for the next. */
+    private static void oneProgramAfterTheOther() {
+        PacketFilter x = Ops.with(Ops.move(0, 1), Ops.with(Ops.ADD, 0, 4), Ops.i(Ops.GT, 0, 2, 0, 5), Ops.i(Ops.LOAD, 0, 1, 3), Ops.exit(), Ops.set(0, 1), Ops.exit());
+        due("3 first", x.verify(), 0);
+        due("3 first", x.decided(2), 3);
+        due("3 first", x.bound(5, 0, 0), 2);
+        x.wipe();
+        Ops.append(x, Ops.set(0, 1), Ops.move(4, 1), Ops.i(Ops.EQ, 0, -1, 1, 4), Ops.exit(), Ops.jump(6), Ops.exit(), Ops.i(Ops.LOAD, 0, 1, 0));
+        due("3 second", x.verify(), 4);
+        due("3 second", x.place(), 6);
+        due("3 second", x.decided(2), 1);
+        due("3 second", x.bound(5, 0, 0), BAD);
+        due("3 second", x.bound(0, 0, 0), 0);
+        x.wipe();
+        Ops.append(x, Ops.set(0, 1), Ops.jump(3), Ops.i(Ops.EQ, 0, -1, 1, 3), Ops.exit());
+        due("3 third", x.verify(), 0);
+        due("3 third", x.decided(2), 0);
+        due("3 third", x.bound(2, 0, 0), BAD);
+        due("3 third", x.bound(3, 4, 0), 0);
     }
 
     private static void verifyAndPlace() {

@@ -69,6 +69,7 @@ public final class RangesTest {
         makes(Ops.ADD, r(0, 16, 3), one(65528), r(0, 65528, 3));
         makes(Ops.ADD, r(8, 16, 3), one(65528), r(0, 8, 3));
         makes(Ops.ADD, r(65535, 65535, 0), r(1, 2, 0), r(0, 1, 0));
+        makes(Ops.ADD, r(65535, 65535, 0), r(0, 2, 0), r(0, 65535, 0));
         makes(Ops.SUB, r(20, 30, 0), r(5, 20, 0), r(0, 25, 0));
         makes(Ops.SUB, r(20, 30, 0), r(5, 21, 0), r(0, 65535, 0));
         makes(Ops.SUB, r(20, 30, 0), r(31, 40, 0), r(65516, 65535, 0));
@@ -111,11 +112,13 @@ public final class RangesTest {
         makes(Ops.AND, r(0, 64, 4), one(0), r(0, 0, 16));
         makes(Ops.OR, r(10, 99, 0), r(5, 50, 0), r(10, 127, 0));
         makes(Ops.OR, r(0, 64, 4), r(0, 8, 2), r(0, 124, 2));
+        makes(Ops.OR, r(5, 50, 0), r(10, 99, 0), r(10, 127, 0));
         makes(Ops.OR, r(0, 1, 0), one(0), r(0, 1, 0));
         makes(Ops.OR, r(3, 32768, 0), one(4), r(4, 65535, 0));
         makes(Ops.OR, r(0, 64, 4), one(0), r(0, 112, 4));
         makes(Ops.XOR, r(10, 99, 0), r(5, 50, 0), r(0, 127, 0));
         makes(Ops.XOR, r(10, 127, 0), r(5, 50, 0), r(0, 127, 0));
+        makes(Ops.XOR, r(5, 50, 0), r(10, 99, 0), r(0, 127, 0));
         makes(Ops.XOR, r(10, 128, 0), one(1), r(0, 255, 0));
         makes(Ops.XOR, r(0, 64, 4), r(0, 8, 3), r(0, 120, 3));
     }
@@ -123,6 +126,7 @@ public final class RangesTest {
     private static void shifts() {
         makes(Ops.LEFT, r(1, 5, 0), one(3), r(8, 40, 3));
         makes(Ops.LEFT, r(1, 5, 0), one(0), r(1, 5, 0));
+        makes(Ops.LEFT, r(1, 65535, 0), one(0), r(1, 65535, 0));
         makes(Ops.LEFT, r(1, 65535, 0), one(1), r(0, 65534, 1));
         makes(Ops.LEFT, r(1, 65535, 0), one(15), r(0, 32768, 15));
         makes(Ops.LEFT, r(0, 65534, 1), one(15), r(0, 0, 16));
@@ -203,6 +207,7 @@ public final class RangesTest {
     private static void equal() {
         bothOfEqual(r(0, 10, 0), r(5, 20, 0), left(r(5, 10, 0), r(5, 10, 0)), left(r(0, 10, 0), r(5, 20, 0)));
         bothOfEqual(r(0, 16, 3), r(3, 20, 0), left(r(8, 16, 3), r(8, 16, 3)), left(r(0, 16, 3), r(3, 20, 0)));
+        bothOfEqual(r(3, 20, 0), r(0, 16, 3), left(r(8, 16, 3), r(8, 16, 3)), left(r(3, 20, 0), r(0, 16, 3)));
         bothOfEqual(r(0, 16, 3), r(1, 7, 0), null, left(r(0, 16, 3), r(1, 7, 0)));
         bothOfEqual(r(0, 16, 3), one(4), null, left(r(0, 16, 3), r(4, 4, 2)));
         bothOfEqual(r(0, 4, 0), r(4, 9, 0), left(r(4, 4, 2), r(4, 4, 2)), left(r(0, 4, 0), r(4, 9, 0)));

@@ -31,10 +31,12 @@ public final class WrongTest {
         for (int op = Ops.ADD; op <= Ops.RIGHT; op++) {
             wrong("d of " + op, 1, 0, Ops.with(op, 4, 1));
             wrong("s of " + op, 1, 1, Ops.set(4, 1), Ops.i(op, 4, 5));
+            wrong("register 0 as s of " + op, 1, 1, Ops.set(4, 1), Ops.i(op, 4, 0));
         }
         for (int op = Ops.EQ; op <= Ops.BITS; op++) {
             wrong("d of " + op, 1, 0, Ops.i(op, 4, -1, 1, 1), Ops.exit());
             wrong("s of " + op, 1, 1, Ops.set(4, 1), Ops.i(op, 4, 5, 0, 2), Ops.exit());
+            wrong("register 0 as s of " + op, 1, 1, Ops.set(4, 1), Ops.i(op, 4, 0, 0, 2), Ops.exit());
         }
         wrong("MOVE", 1, 0, Ops.move(4, 5));
         wrong("MOVE to an unset one", 0, 0, Ops.set(0, 1), Ops.move(4, 0), Ops.exit());
@@ -95,6 +97,7 @@ public final class WrongTest {
         ofKinds("ADD itself", Ops.i(Ops.ADD, 4, 4), 2, 2, 2, 2, 0);
         ofKinds("SUB a constant", Ops.with(Ops.SUB, 4, 1), 0, 2, 0, 3, 0);
         ofKinds("SUB a register", Ops.i(Ops.SUB, 4, 5), 2, 2, 2, 2, 0);
+        ofKinds("SUB register 0", Ops.i(Ops.SUB, 4, 0), 2, 2, 2, 2, 0);
         ofKinds("SUB from a number", Ops.i(Ops.SUB, 5, 4), 2, 2, 2, 2, 0);
         for (int op = Ops.MUL; op <= Ops.RIGHT; op++) {
             ofKinds("d of " + op, Ops.i(op, 4, 5), 2, 2, 2, 2, 0);
@@ -126,6 +129,7 @@ public final class WrongTest {
             ofKinds(op + " with 0", Ops.i(op, 4, -1, 0, 12), 2, 2, 2, equality ? 0 : 2, 0);
             ofKinds(op + " with 1", Ops.i(op, 4, -1, 1, 12), 2, 2, 2, 2, 0);
             ofKinds(op + " with a register that is 0", Ops.i(op, 4, 5, 0, 12), 2, 2, 2, 2, 0);
+            ofKinds(op + " with register 0, which is 0", Ops.i(op, 4, 0, 0, 12), 2, 2, 2, 2, 0);
             ofKinds(op + ", second", Ops.i(op, 5, 4, 0, 12), 2, 2, 2, 2, 0);
         }
         for (int op = Ops.EQ; op <= Ops.BITS; op++) {
@@ -169,6 +173,9 @@ public final class WrongTest {
             Ops.with(Ops.ADD, 4, 3984), Ops.with(Ops.SUB, 4, 1), Ops.with(Ops.ADD, 4, 2));
         wrong("the lo of the base", 4, 5, Ops.move(4, 1), Ops.i(Ops.SAVE, 1, 0, 0), Ops.i(Ops.SIZE), Ops.i(Ops.ADD, 4, 0),
             Ops.with(Ops.SUB, 4, 4000), Ops.with(Ops.SUB, 4, 1));
+        for (int step : new int[] {3984, 3985}) {
+            wrong("the hi of a register", step == 3984 ? 0 : 4, 3, Ops.move(4, 1), Ops.i(Ops.SIZE), Ops.with(Ops.ADD, 4, step), Ops.i(Ops.ADD, 4, 0), Ops.exit());
+        }
         for (int over = 0; over <= 1; over++) {
             PacketFilter x = withKind(ENTRY);
             Ops.append(x, Ops.with(Ops.ADD, 4, 4000 + over), Ops.exit());
@@ -252,6 +259,11 @@ public final class WrongTest {
         x = Ops.with(moved(4));
         Ops.append(x, Ops.i(Ops.LE, 3, 2, 0, 11), Ops.exit(), Ops.with(Ops.SUB, 3, 1), Ops.i(Ops.LT, 3, 2, 0, 13), Ops.i(Ops.LOAD, 0, 4, 3), Ops.exit());
         checks.due("it never reaches less", x.verify(), 0);
+        // Register 0 of the way that jumps, of which nothing is known, while the other one learns of the same origin.
+        x = Ops.with(Ops.move(0, 1), Ops.move(4, 1), Ops.with(Ops.ADD, 4, 3), Ops.i(Ops.GT, 4, 2, 0, 6), Ops.i(Ops.LOAD, 0, 0, 2), Ops.exit(),
+            Ops.i(Ops.LOAD, 0, 0, 0), Ops.exit());
+        checks.due("each way for itself", x.verify(), 4);
+        checks.due("each way for itself", x.place(), 6);
     }
 
     private static void entryMovedByRegister() {
@@ -275,6 +287,18 @@ public final class WrongTest {
         x = withKind(ENTRY);
         Ops.append(x, Ops.set(5, 1), Ops.i(Ops.ADD, 4, 5), Ops.i(Ops.ADD, 4, 5), Ops.i(Ops.LOAD2, 0, 4, 0), Ops.exit());
         checks.due("odd twice is even", x.verify(), 0);
+        x = withKind(ENTRY);
+        Ops.append(x, Ops.set(5, 1), Ops.i(Ops.ADD, 4, 5), Ops.i(Ops.SIZE), Ops.with(Ops.AND, 0, 2), Ops.i(Ops.ADD, 4, 0), Ops.i(Ops.LOAD2, 0, 4, 0), Ops.exit());
+        checks.due("odd and even is odd", x.verify(), 5);
+        // Moved twice by 0 .. 2, so that it is at 0 .. 4.
+        for (int back = 0; back <= 1; back++) {
+            for (int n = 0; n <= 6; n++) {
+                x = withKind(ENTRY);
+                Ops.append(x, Ops.i(Ops.SIZE), Ops.with(Ops.AND, 0, 2), Ops.i(Ops.ADD, 4, 0), Ops.i(Ops.ADD, 4, 0), Ops.with(Ops.SUB, 4, back),
+                    Ops.i(Ops.LOAD, 0, 4, n), Ops.exit());
+                checks.due("moved twice and " + n + " - " + back, x.verify(), n < back || n - back > 3 ? 4 : 0);
+            }
+        }
     }
 
     private static void odd() {
