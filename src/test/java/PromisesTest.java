@@ -156,6 +156,14 @@ public final class PromisesTest {
         due("3 third", x.decided(2), 0);
         due("3 third", x.bound(2, 0, 0), BAD);
         due("3 third", x.bound(3, 4, 0), 0);
+
+        // The packet's first place had instruction 2 as its origin; in the next program another place has.
+        x = Ops.with(Ops.set(0, 3), Ops.move(4, 1), Ops.i(Ops.ADD, 1, 0), Ops.exit());
+        due("3 an origin", x.verify(), 0);
+        x.wipe();
+        Ops.append(x, Ops.set(0, 3), Ops.move(4, 1), Ops.i(Ops.ADD, 4, 0), Ops.i(Ops.GE, 4, 2, 0, 6), Ops.i(Ops.LOAD, 0, 4, 0), Ops.i(Ops.LOAD, 0, 1, 0), Ops.exit());
+        due("3 no such origin", x.verify(), 4);
+        due("3 no such origin", x.place(), 5);
     }
 
     private static void verifyAndPlace() {
