@@ -1,8 +1,5 @@
 /** What operations make of ranges and what conditions leave of them, by the words of the document's terms. */
-public final class RangesTest {
-    private static final Checks checks = new Checks();
-    private static final int AT = 12, JUMPED = 20, LEAVE = 30;
-
+public final class RangesTest extends Ranges {
     public static void main(String[] args) {
         sums();
         products();
@@ -16,47 +13,6 @@ public final class RangesTest {
         bitsInCommon();
         loads();
         checks.end();
-    }
-
-    private static int[] r(int lo, int hi, int z) {
-        return new int[] {lo, hi, z};
-    }
-
-    private static int[] one(int v) {
-        return r(v, v, 0);
-    }
-
-    /** Register d gets this range: FULL with z zeros, and then two conditions that leave if it is outside. */
-    private static void give(PacketFilter x, int d, int[] range) {
-        Ops.append(x, Ops.i(Ops.SIZE), Ops.with(Ops.MUL, 0, 65535), Ops.with(Ops.LEFT, 0, range[2]), Ops.i(Ops.LT, 0, -1, range[0], LEAVE),
-            Ops.i(Ops.GT, 0, -1, range[1], LEAVE), Ops.move(d, 0));
-    }
-
-    private static PacketFilter withRanges(int[] a, int[] b) {
-        PacketFilter x = new PacketFilter();
-        give(x, 4, a);
-        give(x, 5, b);
-        return x;
-    }
-
-    private static void fill(PacketFilter x) {
-        while (x.code(Ops.EXIT, 0, 0, 0, 0) >= 0) continue;
-        checks.due("verify", x.verify(), 0);
-    }
-
-    private static void holds(PacketFilter x, String what, int at, int register, int[] want) {
-        for (int k = 0; k < 3; k++) checks.due(what + " [" + "lo hi z ".substring(k * 3, k * 3 + 2) + "]", x.bound(at, register, k + 1), want[k]);
-    }
-
-    private static String name(int op, int[] a, int[] b) {
-        return java.util.Arrays.toString(a) + " op " + op + " " + java.util.Arrays.toString(b);
-    }
-
-    private static void makes(int op, int[] a, int[] b, int[] want) {
-        PacketFilter x = withRanges(a, b);
-        Ops.append(x, Ops.i(op, 4, 5));
-        fill(x);
-        holds(x, name(op, a, b), AT + 1, 4, want);
     }
 
     private static void sums() {
@@ -180,30 +136,6 @@ public final class RangesTest {
         makes(Ops.RIGHT, one(48), one(2), r(12, 12, 2));
     }
 
-    /** What is left of a and b on the side that jumps (c, d) and on the other one (e, f); null if it is not gone. */
-    private static void leaves(int op, int[] a, int[] b, int[][] jumping, int[][] staying) {
-        PacketFilter x = withRanges(a, b);
-        Ops.append(x, Ops.i(op, 4, 5, 0, JUMPED));
-        // A jump over the target, so that the side which stays does not come there.
-        Ops.append(x, Ops.jump(LEAVE));
-        fill(x);
-        String name = name(op, a, b);
-        side(x, name + " jumps", JUMPED, jumping);
-        side(x, name + " stays", AT + 1, staying);
-        checks.due(name + " decided", x.decided(AT), (jumping != null ? 1 : 0) + (staying != null ? 2 : 0));
-    }
-
-    private static void side(PacketFilter x, String name, int at, int[][] left) {
-        for (int k = 0; k < 2; k++) {
-            if (left != null) holds(x, name + ", register " + (4 + k), at, 4 + k, left[k]);
-            else checks.due(name + " not", x.bound(at, 4 + k, 0), PacketFilter.BAD);
-        }
-    }
-
-    private static int[][] left(int[] a, int[] b) {
-        return new int[][] {a, b};
-    }
-
     private static void equal() {
         bothOfEqual(r(0, 10, 0), r(5, 20, 0), left(r(5, 10, 0), r(5, 10, 0)), left(r(0, 10, 0), r(5, 20, 0)));
         bothOfEqual(r(0, 16, 3), r(3, 20, 0), left(r(8, 16, 3), r(8, 16, 3)), left(r(0, 16, 3), r(3, 20, 0)));
@@ -231,10 +163,6 @@ public final class RangesTest {
         bothOfEqual(r(0, 8, 3), one(0), left(r(0, 0, 16), r(0, 0, 16)), left(r(8, 8, 3), r(0, 0, 16)));
         bothOfEqual(r(0, 8, 3), one(8), left(r(8, 8, 3), r(8, 8, 3)), left(r(0, 0, 16), r(8, 8, 3)));
         bothOfEqual(r(0, 65535, 0), one(65535), left(one65535(), one65535()), left(r(0, 65534, 0), one65535()));
-    }
-
-    private static int[] one65535() {
-        return r(65535, 65535, 0);
     }
 
     private static void order() {
