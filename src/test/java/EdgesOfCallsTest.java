@@ -18,6 +18,7 @@ public final class EdgesOfCallsTest {
         verify();
         place();
         bound();
+        boundBeforeAnInstruction();
         boundOfSeveralWays();
         boundAndPlace();
         decided();
@@ -287,8 +288,22 @@ public final class EdgesOfCallsTest {
             checks.due("verify", x.verify(), at < 32 ? 1 : 6);
             checks.due("place", x.place(), at);
         }
+        checks.sentence("found by the latest verify()");
+        PacketFilter x = Ops.with(Ops.set(0, 0));
+        checks.due("verify", x.verify(), 6);
+        checks.due("place", x.place(), 1);
+        Ops.append(x, Ops.move(0, 3));
+        checks.due("verify", x.verify(), 1);
+        checks.due("place", x.place(), 1);
+        x.wipe();
+        Ops.append(x, Ops.move(0, 1), Ops.set(4, 0), Ops.exit());
+        checks.due("verify", x.verify(), 2);
+        checks.due("place", x.place(), 2);
+        checks.due("verify", x.verify(), 2);
+        checks.due("place", x.place(), 2);
+
         checks.sentence("BAD if there was none since the latest change, or none was WRONG.");
-        PacketFilter x = new PacketFilter();
+        x = new PacketFilter();
         checks.due("no verify()", x.place(), BAD);
         checks.due("verify", x.verify(), 6);
         checks.due("place", x.place(), 0);
@@ -344,6 +359,22 @@ public final class EdgesOfCallsTest {
         }
     }
 
+    private static void boundBeforeAnInstruction() {
+        checks.sentence("Of what the ways that come to instruction i hold");
+        // Not what they hold behind it.
+        PacketFilter x = Ops.with(Ops.set(0, 4), Ops.set(0, 6), Ops.i(Ops.SAVE, 0, 0, 0), Ops.with(Ops.ADD, 0, 1), Ops.i(Ops.EQ, 0, -1, 7, 6), Ops.set(0, 8), Ops.exit());
+        checks.due("verify", x.verify(), 0);
+        int[] want = {BAD, 4, 6, 6, 7, BAD, 7};
+        for (int i = 0; i <= 6; i++) {
+            checks.due("lo at " + i, x.bound(i, 0, 1), want[i]);
+            checks.due("hi at " + i, x.bound(i, 0, 2), want[i]);
+        }
+        checks.due("kind at 0", x.bound(0, 0, 0), 0);
+        checks.due("kind at 5", x.bound(5, 0, 0), BAD);
+        checks.due("the slot before SAVE", x.bound(2, 6, 0), 0);
+        checks.due("the slot after SAVE", x.bound(3, 6, 0), 1);
+    }
+
     private static void boundOfSeveralWays() {
         checks.sentence("what 0: the KIND, 6 if they differ; 1, 2: the least lo and the greatest hi; 3: the least z.");
         // At 6 the way that jumps has the first number in 5, the one that stays the second.
@@ -352,6 +383,18 @@ public final class EdgesOfCallsTest {
             checks.due("verify", x.verify(), 0);
             checks.due("the same kind", x.bound(5, 5, 0), 1);
             for (int what = 1; what <= 3; what++) checks.due(each[0] + " and " + each[1], x.bound(5, 5, what), each[what + 1]);
+        }
+        // Of both ways the ends and z of a range, whichever comes first: 4 .. 12 of 4 and 8 .. 16 of 8, or one within the other.
+        for (int[] each : new int[][] {{4, 12, 2, 8, 16, 3}, {8, 16, 3, 4, 12, 2}, {1, 9, 0, 2, 4, 1}, {2, 4, 1, 1, 9, 0}}) {
+            PacketFilter x = Ops.with(Ops.i(Ops.SIZE), Ops.i(Ops.EQ, 0, -1, 16, 8));
+            range(x, each[0], each[1], each[2]);
+            Ops.append(x, Ops.jump(13));
+            range(x, each[3], each[4], each[5]);
+            Ops.append(x, Ops.exit());
+            checks.due("verify", x.verify(), 0);
+            checks.due("lo", x.bound(13, 0, 1), Math.min(each[0], each[3]));
+            checks.due("hi", x.bound(13, 0, 2), Math.max(each[1], each[4]));
+            checks.due("z", x.bound(13, 0, 3), Math.min(each[2], each[5]));
         }
         int[][] contents = {Ops.set(0, 0), Ops.set(5, 3), Ops.i(Ops.BACK, 5, 0, 0), Ops.i(Ops.BACK, 5, 0, 1), Ops.i(Ops.BACK, 5, 0, 3), Ops.i(Ops.BACK, 5, 0, 2)};
         for (int a = 0; a < 6; a++) {
@@ -367,6 +410,12 @@ public final class EdgesOfCallsTest {
                 }
             }
         }
+    }
+
+    /** Register 0 gets this range in five instructions: how many steps of 2^z it has, shifted, on from its lo. */
+    private static void range(PacketFilter x, int lo, int hi, int z) {
+        int steps = hi - lo >> z;
+        Ops.append(x, Ops.i(Ops.SIZE), Ops.with(Ops.AND, 0, steps), Ops.with(Ops.LEFT, 0, z), Ops.with(Ops.ADD, 0, lo), Ops.set(4, 0));
     }
 
     private static void boundAndPlace() {

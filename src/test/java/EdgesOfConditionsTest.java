@@ -16,6 +16,7 @@ public final class EdgesOfConditionsTest extends Ranges {
         bitsInCommon();
         noBitsInCommon();
         perhaps();
+        originOfFind();
         placesAndEnd();
         allWays();
         checks.end();
@@ -321,6 +322,19 @@ public final class EdgesOfConditionsTest extends Ranges {
             checks.due("no entry", x.run(), exitOfNull);
             x.enter(7, 0, 0);
             checks.due("an entry of bytes that are 0", x.run(), 3 - exitOfNull);
+        }
+    }
+
+    private static void originOfFind() {
+        checks.sentence("FIND PERHAPS with this instruction as ORIGIN");
+        // The same number is looked for twice, so it is the same entry, but what is known of the one is not known of the other.
+        for (int settled = 4; settled <= 5; settled++) {
+            for (int loaded = 4; loaded <= 5; loaded++) {
+                PacketFilter x = Ops.with(Ops.set(1, 7), Ops.i(Ops.FIND), Ops.move(4, 0), Ops.set(1, 7), Ops.i(Ops.FIND), Ops.move(5, 0), Ops.set(0, 0),
+                    Ops.i(Ops.EQ, settled, -1, 0, 9), Ops.i(Ops.LOAD, 0, loaded, 7), Ops.exit());
+                checks.due("verify", x.verify(), settled == loaded ? 0 : 3);
+                checks.due("place", x.place(), settled == loaded ? BAD : 8);
+            }
         }
     }
 

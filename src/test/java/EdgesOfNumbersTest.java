@@ -8,13 +8,16 @@ public final class EdgesOfNumbersTest extends Ranges {
         divisorsAndShifts();
         registersAndSlots();
         registerOrConstant();
+        instructions();
         bytes();
         entries();
+        bytesOfEntries();
         size();
         clock();
         trimmed();
         single();
         bothSingle();
+        full();
         sums();
         differences();
         products();
@@ -160,11 +163,50 @@ public final class EdgesOfNumbersTest extends Ranges {
             for (int r = 0; r < 6; r++) Ops.append(x, Ops.set(r, 100 + r));
             Ops.append(x, Ops.i(Ops.ADD, 4, s, 7), Ops.move(0, 4), Ops.exit());
             checks.due("verify", x.verify(), 0);
-            checks.due("register 4 and that of " + s, x.run(), s == -1 ? 111 : 204 + s);
+            int want = s == -1 ? 111 : 204 + s;
+            checks.due("register 4 and that of " + s, x.run(), want);
+            holds(x, "register 4 and that of " + s, 7, 4, r(want, want, Integer.numberOfTrailingZeros(want)));
+        }
+    }
+
+    private static void instructions() {
+        checks.sentence("A PROGRAM has at most 32 instructions, numbered from 0, among them at most 5 CONDITIONS (22 to 28).");
+        // The longest one, with as many conditions as there may be, the first at 1 and the last at 30; all of it is done, or the last jump is taken.
+        for (int taken = 0; taken <= 1; taken++) {
+            PacketFilter x = Ops.with(Ops.i(Ops.SIZE));
+            for (int k = 1; k < 31; k++) {
+                boolean condition = k <= 4 || k == 30;
+                int number = x.code(condition ? Ops.EQ : Ops.JUMP, 0, -1, k == 30 ? taken : 9, k == 30 ? 31 : k + 1);
+                checks.due("code", number, k);
+            }
+            checks.due("no sixth condition", x.code(Ops.EQ, 0, -1, 1, 31), BAD);
+            checks.due("the last one", x.code(Ops.EXIT, 0, 0, 0, 0), 31);
+            checks.due("no more", x.code(Ops.EXIT, 0, 0, 0, 0), PacketFilter.FULL);
+            checks.due("verify", x.verify(), 0);
+            x.put(1);
+            checks.due("run", x.run(), 1);
+            checks.due("how many", x.ran(0), 32);
+            checks.due("which one", x.ran(1), 31);
+        }
+        checks.sentence("Jumps go on to higher numbers only.");
+        for (int op = Ops.JUMP; op <= Ops.BITS; op++) {
+            PacketFilter x = Ops.with(Ops.set(0, 1), Ops.set(4, 1), Ops.set(5, 1));
+            for (int to = 0; to <= 3; to++) checks.due(op + " to " + to, x.code(op, 4, 5, 0, to), BAD);
+            checks.due(op + " to 4", x.code(op, 4, 5, 0, 4), 3);
         }
     }
 
     private static void bytes() {
+        checks.sentence("12 LOAD d = the byte at s + n");
+        for (int at = 0; at < 16; at++) {
+            for (int n : new int[] {0, at, 16, 255}) {
+                // The place is moved so far that with n it is the byte.
+                PacketFilter x = Ops.with(Ops.set(0, 0), Ops.move(4, 1), Ops.with(Ops.ADD, 4, 16), Ops.i(Ops.GT, 4, 2, 0, 31),
+                    at < n ? Ops.with(Ops.SUB, 1, n - at) : Ops.with(Ops.ADD, 1, at - n), Ops.i(Ops.LOAD, 0, 1, n));
+                for (int k = 0; k < 16; k++) x.put(255 - k);
+                exits("byte " + at + " with n " + n, x, 0, 255 - at);
+            }
+        }
         checks.sentence("13 LOAD2 the two bytes there, the lower one first");
         for (int[] each : new int[][] {{0, 0, 0}, {255, 0, 255}, {0, 1, 256}, {0, 255, 65280}, {255, 255, 65535}, {1, 128, 32769}}) {
             PacketFilter x = Ops.with(Ops.set(0, 0), Ops.move(4, 1), Ops.with(Ops.ADD, 4, 2), Ops.i(Ops.GT, 4, 2, 0, 31), Ops.i(Ops.LOAD2, 0, 1, 0));
@@ -199,7 +241,37 @@ public final class EdgesOfNumbersTest extends Ranges {
         }
     }
 
+    private static void bytesOfEntries() {
+        checks.sentence("ENTRIES 0 .. 7 are there or not, with 8 bytes each.");
+        for (int e = 0; e < 8; e++) {
+            // Two bytes of one entry become 0: its first and its last; those beside them, of other entries and of the packet, stay.
+            for (int n : new int[] {0, 6}) {
+                PacketFilter x = Ops.with(Ops.set(1, e), Ops.i(Ops.FIND), Ops.i(Ops.NE, 0, -1, 0, 4), Ops.exit(), Ops.set(4, 0), Ops.i(Ops.STORE2, 0, 4, n),
+                    Ops.set(0, 1));
+                fill(x);
+                for (int k = 0; k < 64; k++) x.enter(k / 8, k % 8, 100 + k);
+                for (int k = 0; k < 16; k++) x.put(200 + k);
+                checks.due("run", x.run(), 1);
+                for (int k = 0; k < 64; k++) {
+                    boolean written = k / 8 == e && (k % 8 == n || k % 8 == n + 1);
+                    checks.due("byte " + k % 8 + " of entry " + k / 8, x.entry(k / 8, k % 8), written ? 0 : 100 + k);
+                }
+                for (int k = 0; k < 16; k++) checks.due("byte " + k + " of the packet", x.packet(k), 200 + k);
+                checks.due("drop", x.drop(e), true);
+                checks.due("not there", x.run(), 0);
+                checks.due("not there", x.ran(1), 3);
+            }
+        }
+    }
+
     private static void size() {
+        checks.sentence("19 SIZE: register 0 = how many bytes the packet has");
+        for (int length : new int[] {0, 1, 15, 16}) {
+            PacketFilter x = Ops.with(Ops.i(Ops.SIZE), Ops.exit());
+            for (int k = 0; k < length; k++) x.put(0);
+            checks.due("verify", x.verify(), 0);
+            checks.due("SIZE", x.run(), length);
+        }
         checks.sentence("The PACKET has 0 .. 16 bytes");
         PacketFilter x = Ops.with(Ops.i(Ops.SIZE), Ops.exit());
         checks.due("verify", x.verify(), 0);
@@ -314,6 +386,24 @@ public final class EdgesOfNumbersTest extends Ranges {
         makes(Ops.LEFT, one(65535), one(16), r(0, 0, 16));
         makes(Ops.RIGHT, one(65535), one(15), r(1, 1, 0));
         makes(Ops.RIGHT, one(65535), one(16), r(0, 0, 16));
+    }
+
+    private static void full() {
+        checks.sentence("FULL is 0 .. 65535, with the z said");
+        for (int z = 0; z <= 15; z++) {
+            int unit = 1 << z, top = 65536 - unit;
+            // All multiples of 2^z, which are at least two, and what makes them FULL again.
+            int[] all = r(0, top, z);
+            makes(Ops.ADD, all, r(0, top, z), all);
+            makes(Ops.ADD, all, one(unit), all);
+            makes(Ops.SUB, all, r(0, top, z), all);
+            makes(Ops.SUB, all, one(unit), all);
+            makes(Ops.LEFT, all, r(0, 1, 0), all);
+            makes(Ops.MUL, r(0, 65535, 0), one(unit), all);
+            makes(Ops.LEFT, r(0, 65535, 0), one(z), all);
+        }
+        makes(Ops.MUL, r(0, 65534, 1), one(32768), r(0, 0, 16));
+        makes(Ops.LEFT, r(0, 65534, 1), one(15), r(0, 0, 16));
     }
 
     private static void sums() {
@@ -438,6 +528,7 @@ public final class EdgesOfNumbersTest extends Ranges {
     private static void shiftsToTheLeft() {
         checks.sentence("LEFT by a single k: 0 for k 16 or more, else lo and hi shifted, FULL if hi is above 65535 then, z + k, 16 at most");
         makes(Ops.LEFT, r(1, 5, 0), one(0), r(1, 5, 0));
+        makes(Ops.LEFT, r(1, 65535, 0), one(0), r(1, 65535, 0));
         makes(Ops.LEFT, r(0, 1, 0), one(15), r(0, 32768, 15));
         for (int by : new int[] {16, 17, 31, 32, 33, 65535}) makes(Ops.LEFT, r(1, 5, 0), one(by), r(0, 0, 16));
         makes(Ops.LEFT, r(1, 32767, 0), one(1), r(2, 65534, 1));

@@ -13,8 +13,12 @@ public final class EdgesOfWrongTest extends Ranges {
         beforeTheFirstByte();
         reachesAtFirst();
         reaches();
+        stepsByConstants();
         reachesWhenMoved();
+        reachesNothing();
         origins();
+        allOfOneWay();
+        placesAtFirst();
         bytesOfAnEntry();
         odd();
         oddBase();
@@ -114,6 +118,10 @@ public final class EdgesOfWrongTest extends Ranges {
                 wrong("BACK " + slot + " after SAVE " + saved, x, slot == saved ? 0 : 1, 1);
             }
         }
+        for (int op = Ops.ADD; op <= Ops.BITS; op++) {
+            if (op > Ops.RIGHT && op < Ops.EQ) continue;
+            wrong("register 0 as X of " + op, Ops.with(Ops.set(4, 0), Ops.i(op, 4, 0, 0, 2), Ops.exit()), 1, 1);
+        }
         wrong("EXIT", Ops.with(Ops.exit()), 1, 0);
         wrong("EXIT with 0", Ops.with(Ops.set(0, 1), Ops.exit()), 0, 0);
         wrong("FIND", Ops.with(Ops.i(Ops.CLOCK), Ops.i(Ops.FIND), Ops.set(0, 0), Ops.exit()), 1, 1);
@@ -156,12 +164,21 @@ public final class EdgesOfWrongTest extends Ranges {
             ofKinds(Ops.i(op, 4, -1, 1, 13), NUMBER_KIND);
             if (op > Ops.NE) ofKinds(Ops.i(op, 4, -1, 0, 13), NUMBER_KIND);
             else ofKinds(Ops.i(op, 4, -1, 0, 13), 0, 2, 2, 2, 0);
+            // Register 0 holds 0, but it is not the constant.
+            ofKinds(Ops.i(op, 4, 0, 0, 13), NUMBER_KIND);
+            for (int first = 1; first <= 2; first++) {
+                boolean order = op >= Ops.LT && op <= Ops.GE;
+                wrong("PACKET and END by " + op, Ops.with(Ops.set(0, 0), Ops.i(op, first, 3 - first, 0, 2), Ops.exit()), order ? 0 : 2, 1);
+                wrong("two alike by " + op, Ops.with(Ops.set(0, 0), Ops.move(4, first), Ops.i(op, first, 4, 0, 3), Ops.exit()), 2, 2);
+            }
         }
         checks.sentence("d of ADD, and of SUB of a constant, may be a PACKET, an ENTRY or PERHAPS");
         ofKinds(Ops.i(Ops.ADD, 4, 5), PLACE_TO_MOVE);
         ofKinds(Ops.with(Ops.ADD, 4, 1), PLACE_TO_MOVE);
         ofKinds(Ops.with(Ops.SUB, 4, 1), PLACE_TO_MOVE);
         ofKinds(Ops.i(Ops.SUB, 4, 5), NUMBER_KIND);
+        ofKinds(Ops.i(Ops.SUB, 4, 0), NUMBER_KIND);
+        ofKinds(Ops.i(Ops.ADD, 4, 0), PLACE_TO_MOVE);
 
         checks.sentence("like s of LOAD and d of STORE, which must be one of these");
         // The packet's place is as said, but nothing is known of its bytes.
@@ -352,6 +369,38 @@ public final class EdgesOfWrongTest extends Ranges {
         touches("4 becomes 6", x, 0, Ops.LOAD, 5, 0);
     }
 
+    private static void stepsByConstants() {
+        checks.sentence("ADD and SUB of a constant to PACKET or ENTRY change the STEP");
+        // Not the base, nor what is known: an odd step there and back leaves an even place, and it reaches as far as before.
+        for (int by : new int[] {1, 3, 3999, 4000}) {
+            for (int op = Ops.LOAD; op <= Ops.STORE2; op++) {
+                PacketFilter x = known(8, Ops.GT);
+                Ops.append(x, moving(4, by), moving(4, -by));
+                touches("there and back by " + by, x, 0, op, 6, 0);
+                x = known(8, Ops.GT);
+                Ops.append(x, moving(4, -by), moving(4, by));
+                touches("back and there by " + by, x, 0, op, 8, 4);
+                x = entry();
+                Ops.append(x, moving(4, by), moving(4, -by));
+                touches("an entry there and back by " + by, x, 0, op, 6, 0);
+                x = entry();
+                Ops.append(x, moving(4, -by), moving(4, by));
+                touches("an entry back and there by " + by, x, 0, op, 8, 4);
+            }
+        }
+        checks.sentence("the place being base and step");
+        for (int base = 0; base <= 16; base++) {
+            for (int at = 0; at < 8; at++) {
+                PacketFilter x = entry();
+                Ops.append(x, Ops.set(5, base), Ops.i(Ops.ADD, 4, 5), moving(4, at - base), Ops.i(Ops.LOAD, 0, 4, 0));
+                end(x);
+                for (int k = 0; k < 8; k++) x.enter(3, k, 60 + k);
+                checks.due("verify", x.verify(), 0);
+                checks.due("base " + base + " and step " + (at - base), x.run(), 60 + at);
+            }
+        }
+    }
+
     private static void reachesWhenMoved() {
         checks.sentence("ADD of a register with a NUMBER adds its range to the BASE (los and his, the lesser z; TRIMMED), and for PACKET the ORIGIN is this instruction "
             + "and it REACHES -9999.");
@@ -380,6 +429,20 @@ public final class EdgesOfWrongTest extends Ranges {
         Ops.append(x, moving(3, -7), Ops.i(Ops.LT, 3, 2, 0, 17), Ops.exit(), Ops.set(0, 0));
         touches("less", x, -6, Ops.LOAD, 0, 4);
         inARun();
+    }
+
+    /** The words are kept to where a step is so far below the base that it is within what REACHES -9999. */
+    private static void reachesNothing() {
+        checks.sentence("it REACHES -9999");
+        for (int step : new int[] {-9998, -9999, -10000, -10001}) {
+            // The base is 10001 at last, of which 8000 are added where the step is -4000.
+            PacketFilter x = Ops.with(Ops.set(0, 0), Ops.set(4, 8000), Ops.set(5, 2001), moving(1, -4000), Ops.i(Ops.ADD, 1, 4), moving(1, step + 4000),
+                Ops.i(Ops.ADD, 1, 5), Ops.i(Ops.LOAD, 0, 1, 0), Ops.exit());
+            boolean within = step + 1 <= -9999;
+            wrong("step " + step, x, within ? 0 : 4, 7);
+            for (int k = 0; k < 4; k++) x.put(50 + k);
+            checks.due("step " + step, x.run(), within ? 50 + 10001 + step : BAD);
+        }
     }
 
     /** A place moved by a byte of the packet, and a byte loaded there. */
@@ -413,9 +476,71 @@ public final class EdgesOfWrongTest extends Ranges {
         x = movedPacket(r(0, 8, 0), 0);
         Ops.append(x, Ops.i(Ops.ADD, 1, 5), Ops.move(3, 1), moving(3, 1), Ops.i(Ops.LE, 3, 2, 0, 19), Ops.exit());
         touches("another origin", x, 0, Ops.LOAD, 0, 4);
+        checks.sentence("of PACKET also an ORIGIN (at first -1)");
         // The first place has an origin, too, which is none of the instructions; number 0 is one.
         x = Ops.with(Ops.set(0, 0), Ops.move(4, 1), Ops.i(Ops.ADD, 1, 0), moving(1, 1), Ops.i(Ops.GT, 1, 2, 0, 31));
         touches("the first place", x, 0, Ops.LOAD, 0, 4);
+        // All copies of the first place have it, however far they were moved by constants.
+        x = Ops.with(Ops.set(0, 0), Ops.move(4, 1), moving(4, 7), Ops.i(Ops.SAVE, 4, 0, 0), moving(1, 9), Ops.i(Ops.GT, 1, 2, 0, 31), Ops.i(Ops.BACK, 4, 0, 0));
+        touches("the first place, moved", x, 0, Ops.LOAD, 1, 0);
+        x = Ops.with(Ops.set(0, 0), Ops.move(4, 1), moving(4, 7), Ops.i(Ops.SAVE, 4, 0, 0), moving(1, 9), Ops.i(Ops.GT, 1, 2, 0, 31), Ops.i(Ops.BACK, 4, 0, 0));
+        touches("the first place, moved", x, 0, Ops.LOAD, 2, 4);
+    }
+
+    /** Wherever a copy is, it is known what the condition tells, and on no other way. */
+    private static void allOfOneWay() {
+        checks.sentence("all registers and slots with PERHAPS of this ORIGIN");
+        forEachCell(true, Ops.EQ, Ops.NE, 3);
+        checks.sentence("all PACKETS of its ORIGIN reach its STEP at least; where it is less, one more.");
+        forEachCell(false, Ops.GE, Ops.LT, 4);
+    }
+
+    /** The way that learns is the one that jumps at first or not, and then the side that leaves or the one that goes on jumps. */
+    private static void forEachCell(boolean isPerhaps, int leaving, int goingOn, int wrong) {
+        for (int cell = 0; cell < 10; cell++) {
+            for (int jumping = 0; jumping <= 1; jumping++) {
+                oneWayLearns(isPerhaps, cell, jumping == 1, leaving, 20, wrong);
+                oneWayLearns(isPerhaps, cell, jumping == 1, goingOn, 16, wrong);
+            }
+        }
+    }
+
+    /** Two ways hold a copy in this cell; one of them goes by the condition op and then loads from it; the other one leaves, or does without it what is WRONG. */
+    private static void oneWayLearns(boolean isPerhaps, int cell, boolean jumping, int op, int to, int wrong) {
+        int[] free = new int[3];
+        for (int r = 5, k = 0; k < 3; r--) if (r != cell) free[k++] = r;
+        int number = free[0], place = free[1], end = free[2];
+        int endSlot = cell == 7 ? 2 : 1;
+        int[] back = cell < 6 ? Ops.set(number, 0) : Ops.i(Ops.BACK, place, 0, cell - 6);
+        int[] load = Ops.i(Ops.LOAD, number, cell < 6 ? cell : place, 3);
+        // 17 is the LOAD of the one way, 19 that of both, 21 the EXIT.
+        for (int other : new int[] {18, 20}) {
+            PacketFilter x = Ops.with(Ops.i(Ops.SAVE, 2, 0, endSlot), isPerhaps ? Ops.set(1, 1) : Ops.set(4, 0), isPerhaps ? Ops.i(Ops.FIND) : Ops.move(0, 1),
+                Ops.i(Ops.SAVE, 0, 0, 0), cell > 6 ? Ops.i(Ops.SAVE, 0, 0, cell - 6) : Ops.set(4, 0), Ops.i(Ops.SIZE), Ops.move(number, 0),
+                cell < 6 ? Ops.i(Ops.BACK, cell, 0, 0) : Ops.set(place, 0));
+            Ops.append(x, Ops.i(jumping ? Ops.EQ : Ops.NE, number, -1, 3, jumping ? 10 : other), jumping ? Ops.jump(other) : Ops.set(number, 0));
+            Ops.append(x, Ops.i(Ops.BACK, place, 0, 0), isPerhaps ? Ops.set(number, 0) : moving(place, 3), Ops.i(Ops.BACK, end, 0, endSlot),
+                isPerhaps ? Ops.i(op, place, -1, 0, to) : Ops.i(op, place, end, 0, to), to == 16 ? Ops.jump(20) : Ops.set(number, 0), Ops.set(number, 0),
+                back, load, back, load, Ops.set(0, 0), Ops.exit());
+            wrong("a copy in " + cell + (jumping ? ", jumping, by " : ", staying, by ") + op, x, other == 18 ? wrong : 0, 19);
+        }
+    }
+
+    private static void placesAtFirst() {
+        checks.sentence("of PACKET and ENTRY a RANGE (the BASE; at first 0, 0, 16), an int (the STEP, at first 0)");
+        // Whatever the register held before, a number or a place far away, the entry's place is its first byte, and NULL is 0.
+        int[][][] before = {{Ops.set(0, 5), Ops.set(0, 6)}, {Ops.move(0, 1), moving(0, 300)}, {Ops.move(0, 1), moving(0, -300)}, {Ops.i(Ops.SIZE), Ops.set(1, 1)}};
+        for (int[][] each : before) {
+            for (int n = 7; n <= 8; n++) {
+                PacketFilter x = Ops.with(each);
+                Ops.append(x, Ops.set(1, 1), Ops.i(Ops.FIND), Ops.i(Ops.NE, 0, -1, 0, 6), Ops.exit(), Ops.i(Ops.LOAD, 4, 0, 0), Ops.i(Ops.LOAD2, 4, 0, 6),
+                    Ops.i(Ops.LOAD, 0, 0, n), Ops.exit());
+                wrong("byte " + n, x, n == 7 ? 0 : 4, 8);
+                holds(x, "NULL", 5, 0, r(0, 0, 16));
+            }
+        }
+        for (int op : new int[] {Ops.LOAD, Ops.LOAD2}) touches("PACKET", known(2, Ops.GT), 0, op, 0, 0);
+        for (int op : new int[] {Ops.LOAD, Ops.LOAD2}) touches("PACKET", known(2, Ops.GT), -1, op, 0, 4);
     }
 
     private static void bytesOfAnEntry() {
@@ -434,6 +559,15 @@ public final class EdgesOfWrongTest extends Ranges {
             touches("ENTRY, base 0 .. 8", movedEntry(r(0, 8, 0), 0), 0, op, 0, 4);
             touches("ENTRY, base 3 .. 10", movedEntry(r(3, 10, 0), 0), -3, op, 0, 0);
             touches("ENTRY, base 3 .. 11", movedEntry(r(3, 11, 0), 0), -3, op, 0, 4);
+            // The base is a range twice, so both its ends are sums: 2 .. 3 and 2 .. 3 is 4 .. 6.
+            for (int n : new int[] {0, 1, 2, 3}) {
+                PacketFilter x = movedEntry(r(2, 3, 0), 0);
+                Ops.append(x, Ops.i(Ops.ADD, 4, 5));
+                touches("ENTRY, base 4 .. 6", x, 0, op, n, n <= 1 ? 0 : 4);
+                x = movedEntry(r(2, 3, 0), 0);
+                Ops.append(x, Ops.i(Ops.ADD, 4, 5));
+                touches("ENTRY, base 4 .. 6", x, -5, op, n, n >= 1 ? 0 : 4);
+            }
         }
         for (int op : TWO_BYTES) {
             touches("ENTRY", entry(), 0, op, 6, 0);

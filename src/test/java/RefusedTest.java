@@ -2,7 +2,10 @@ import java.util.ArrayList;
 import java.util.Arrays;
 import java.util.List;
 
-/** After a call that is refused (BAD, FULL, false) all that later calls answer is as if it had not been made; and no call ever throws. */
+/**
+ * After a call that is refused (BAD, FULL, false) all that later calls answer is as if it had not been made; after wipe() nothing is left of
+ * a program and what was found of it; and no call ever throws.
+ */
 public final class RefusedTest {
     private static final int BAD = PacketFilter.BAD, FULL = PacketFilter.FULL;
     private static final int FAR = Integer.MAX_VALUE, LOW = Integer.MIN_VALUE;
@@ -35,6 +38,7 @@ public final class RefusedTest {
             java.util.Collections.reverse(some);
             changesNothing(state, some);
         }
+        wipedLeavesNothing();
         neverThrows();
         checks.end();
     }
@@ -262,11 +266,63 @@ public final class RefusedTest {
             // An object is used for at most 512 calls, the refused ones among them.
             int room = MOST_CALLS - state.history.size() - asked.size();
             List<Refused> some = refused.subList(0, Math.min(refused.size(), room));
-            PacketFilter without = made(state), with = made(state);
+            PacketFilter without = made(state.history), with = made(state.history);
             for (Refused each : some) checks.due(state.name + ": " + each.name, each.call.on(with), each.want);
             for (int q = 0; q < asked.size(); q++) {
                 checks.due(state.name + ", after " + names + ": question " + k + ", " + q, asked.get(q).on(with), asked.get(q).on(without));
             }
+        }
+    }
+
+    /** Programs of which each has other ways to the same instructions, other kinds there, and other things WRONG. */
+    private static final int[][][] PROGRAMS = {
+        PROGRAM,
+        {},
+        {Ops.exit()},
+        {Ops.i(Ops.LOAD, 0, 1, 0), Ops.exit()},
+        {Ops.set(0, 0), Ops.i(Ops.GE, 1, 2, 0, 3), Ops.i(Ops.LOAD, 0, 1, 0), Ops.exit()},
+        {Ops.set(0, 0), Ops.i(Ops.EQ, 0, -1, 0, 3), Ops.i(Ops.EQ, 0, -1, 1, 3), Ops.exit()},
+        {Ops.set(0, 0), Ops.i(Ops.NE, 0, -1, 0, 3), Ops.i(Ops.EQ, 0, -1, 0, 3), Ops.exit()},
+        {Ops.set(0, 3), Ops.move(4, 1), Ops.i(Ops.ADD, 1, 0), Ops.exit()},
+        {Ops.set(0, 3), Ops.move(4, 1), Ops.i(Ops.ADD, 4, 0), Ops.i(Ops.GE, 4, 2, 0, 6), Ops.i(Ops.LOAD, 0, 4, 0), Ops.i(Ops.LOAD, 0, 1, 0), Ops.exit()},
+        {Ops.set(0, 0), Ops.with(Ops.SUB, 1, 4), Ops.with(Ops.ADD, 1, 1), Ops.exit()},
+        {Ops.with(Ops.ADD, 1, 7), Ops.i(Ops.GT, 1, 2, 0, 4), Ops.set(0, 1), Ops.exit(), Ops.set(0, 2), Ops.exit()},
+        {Ops.i(Ops.SAVE, 1, 0, 3), Ops.i(Ops.SAVE, 2, 0, 2), Ops.i(Ops.SIZE), Ops.move(1, 0), Ops.move(2, 0), Ops.move(3, 0), Ops.move(4, 0), Ops.move(5, 0),
+            Ops.exit()}
+    };
+
+    private static List<Call> longest(boolean saves) {
+        List<Call> history = new ArrayList<>();
+        append(history, Ops.set(0, 9));
+        for (int k = 1; k < 31; k++) append(history, saves ? Ops.i(Ops.SAVE, 0, 0, k % 4) : Ops.set(0, k));
+        append(history, Ops.exit());
+        return history;
+    }
+
+    private static void wipedLeavesNothing() {
+        List<List<Call>> programs = new ArrayList<>(List.of(longest(true), longest(false)));
+        for (int[][] each : PROGRAMS) {
+            List<Call> history = new ArrayList<>();
+            append(history, each);
+            programs.add(history);
+        }
+        for (List<Call> first : programs) {
+            for (List<Call> second : programs) {
+                List<Call> only = new ArrayList<>(second), after = new ArrayList<>(first);
+                only.add(PacketFilter::verify);
+                after.add(PacketFilter::verify);
+                after.add(PacketFilter::wipe);
+                after.addAll(second);
+                after.add(PacketFilter::verify);
+                sameAnswers("program " + programs.indexOf(second) + " after " + programs.indexOf(first), only, after);
+            }
+        }
+    }
+
+    private static void sameAnswers(String what, List<Call> history, List<Call> another) {
+        for (int k = 0; k < QUESTIONS.size(); k++) {
+            PacketFilter x = made(history), y = made(another);
+            for (Call asked : QUESTIONS.get(k)) checks.due(what + ": question " + k, asked.on(y), asked.on(x));
         }
     }
 
@@ -277,9 +333,9 @@ public final class RefusedTest {
         checks.due(state.name + ": what was done last", answer, state.last);
     }
 
-    private static PacketFilter made(State state) {
+    private static PacketFilter made(List<Call> history) {
         PacketFilter x = new PacketFilter();
-        for (Call each : state.history) each.on(x);
+        for (Call each : history) each.on(x);
         return x;
     }
 
@@ -288,7 +344,7 @@ public final class RefusedTest {
     private static void neverThrows() {
         int[] all = {LOW, LOW + 1, -65536, -2, -1, 0, 1, 2, 3, 5, 6, 7, 8, 9, 10, 15, 16, 17, 29, 30, 31, 32, 33, 255, 256, 319, 320, 65535, 65536, FAR - 1, FAR};
         for (State state : states()) {
-            PacketFilter x = made(state);
+            PacketFilter x = made(state.history);
             int before = x.packet(0);
             for (int a : all) {
                 x.packet(a);
