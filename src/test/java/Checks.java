@@ -33,6 +33,11 @@ final class Checks {
         due(call, got ? 1 : 0, want ? 1 : 0);
     }
 
+    void due(String call, String got, String want) {
+        boolean isSame = got.equals(want);
+        due(isSame ? call : call + " \"" + got + "\" for \"" + want + "\"", isSame, true);
+    }
+
     void end() {
         endSentence();
         if (sentences != 0) System.out.print(sentences + " sentences, ");

@@ -350,6 +350,43 @@ final class Model {
         return gone[i][1] ? gone[i][0] ? 3 : 1 : 2;
     }
 
+    int put(int v) {
+        if (packet.size() == 16) return FULL;
+        packet.add(v & 255);
+        return packet.size();
+    }
+
+    int cut() {
+        int had = packet.size();
+        packet.clear();
+        return had;
+    }
+
+    int packet(int k) {
+        return k >= 0 && k < packet.size() ? packet.get(k) : BAD;
+    }
+
+    boolean enter(int e, int k, int v) {
+        if (e < 0 || e > 7 || k < 0 || k > 7) return false;
+        if (entries[e] == null) entries[e] = new int[8];
+        entries[e][k] = v & 255;
+        return true;
+    }
+
+    boolean drop(int e) {
+        if (e < 0 || e > 7 || entries[e] == null) return false;
+        entries[e] = null;
+        return true;
+    }
+
+    int entry(int e, int k) {
+        return e < 0 || e > 7 || k < 0 || k > 7 || entries[e] == null ? BAD : entries[e][k];
+    }
+
+    int ran(int what) {
+        return what == 0 ? ranCount : what == 1 ? ranLast : BAD;
+    }
+
     static int result(int op, int a, int b) {
         int r = switch (op) {
             case 2 -> a + b;

@@ -155,20 +155,20 @@ public final class ModelTest {
 
     private static void compareRun(int seed, PacketFilter x, Model m, Random chance) {
         x.cut();
-        m.packet.clear();
+        m.cut();
         int length = chance.nextInt(17);
         for (int k = 0; k < length; k++) {
             int v = chance.nextInt(3) == 0 ? chance.nextInt(9) : chance.nextInt(256);
             x.put(v);
-            m.packet.add(v);
+            m.put(v);
         }
         for (int k = 0; k < 4; k++) changeEntry(x, m, chance);
         checks.due(seed + " run", x.run(), m.run());
-        checks.due(seed + " ran 0", x.ran(0), m.ranCount);
-        checks.due(seed + " ran 1", x.ran(1), m.ranLast);
+        checks.due(seed + " ran 0", x.ran(0), m.ran(0));
+        checks.due(seed + " ran 1", x.ran(1), m.ran(1));
         checks.due(seed + " touched what is not there", m.touchedNothing, false);
-        for (int k = 0; k < 17; k++) checks.due(seed + " packet " + k, x.packet(k), k < length ? m.packet.get(k) : -1);
-        for (int k = 0; k < 64; k++) checks.due(seed + " entry", x.entry(k / 8, k % 8), m.entries[k / 8] == null ? -1 : m.entries[k / 8][k % 8]);
+        for (int k = 0; k < 17; k++) checks.due(seed + " packet " + k, x.packet(k), m.packet(k));
+        for (int k = 0; k < 64; k++) checks.due(seed + " entry", x.entry(k / 8, k % 8), m.entry(k / 8, k % 8));
         if (m.wrongs.isEmpty()) staysWithin(seed, m);
     }
 
@@ -176,11 +176,10 @@ public final class ModelTest {
         int e = chance.nextInt(8), k = chance.nextInt(8), v = chance.nextInt(512);
         if (chance.nextInt(4) == 0) {
             x.drop(e);
-            m.entries[e] = null;
+            m.drop(e);
         } else {
             x.enter(e, k, v);
-            if (m.entries[e] == null) m.entries[e] = new int[8];
-            m.entries[e][k] = v & 255;
+            m.enter(e, k, v);
         }
     }
 
