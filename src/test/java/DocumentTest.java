@@ -24,6 +24,7 @@ public final class DocumentTest extends Ranges {
         slots();
         jump();
         exit();
+        calls();
         kinds();
         ranges();
         aRangeOfEach();
@@ -277,6 +278,38 @@ public final class DocumentTest extends Ranges {
             checks.due("EXIT at " + at + ", done", x.ran(0), at + 1);
             checks.due("EXIT at " + at + ", last", x.ran(1), at);
         }
+    }
+
+    /** Whatever register 0 held before, a call makes it anew. */
+    private static void calls() {
+        int[][][] before = {{Ops.set(0, 9)}, {Ops.move(0, 1), Ops.with(Ops.ADD, 0, 3)}, {Ops.move(0, 2)},
+            {Ops.set(1, 2), Ops.i(Ops.FIND), Ops.i(Ops.EQ, 0, -1, 0, 29), Ops.with(Ops.ADD, 0, 5)}};
+        for (int[][] each : before) {
+            for (int number : new int[] {2, 4, 5}) {
+                checks.sentence("18 FIND: register 0 = the entry with the number of register 1, or NULL");
+                PacketFilter x = Ops.with(each);
+                Ops.append(x, Ops.set(1, number), Ops.i(Ops.FIND), Ops.i(Ops.EQ, 0, -1, 0, 28), Ops.i(Ops.LOAD, 0, 0, 1), Ops.exit());
+                isRun(x, number == 5 ? 0 : 40 + number, number == 5 ? 28 : each.length + 4);
+            }
+            checks.sentence("19 SIZE: register 0 = how many bytes the packet has");
+            PacketFilter x = Ops.with(each);
+            Ops.append(x, Ops.i(Ops.SIZE), Ops.exit());
+            isRun(x, 3, each.length + 1);
+            checks.sentence("20 CLOCK: register 0 = how many instructions were done before this one.");
+            x = Ops.with(each);
+            Ops.append(x, Ops.i(Ops.CLOCK), Ops.exit());
+            isRun(x, each.length, each.length + 1);
+        }
+    }
+
+    /** With a packet of three bytes and entries 2 and 4, of which byte 1 is 40 more than their number. */
+    private static void isRun(PacketFilter x, int want, int last) {
+        fill(x);
+        for (int k = 0; k < 3; k++) x.put(9);
+        x.enter(2, 1, 42);
+        x.enter(4, 1, 44);
+        checks.due("run", x.run(), want);
+        checks.due("ran", x.ran(1), last);
     }
 
     // ---- Kinds, ranges and ways
